@@ -5,9 +5,10 @@ import java.util.Random;
 /** Long runs of calls drawn from fixed seeds, answered by the program and by PlainRoom alike. */
 final class ModelTest {
     private static final int RUNS = 3000;
-    // With one more group of calls and 80 questions at the end, a run stays under the 512 calls
-    // for which answers are promised.
-    private static final int CALLS = 420;
+    // After these, and what one more group of them may take, a run asks until it has had the 512
+    // calls for which answers are promised, and no more.
+    private static final int CALLS = 430;
+    private static final int ALL_CALLS = 512;
 
     private final Check check;
     private final Random random;
@@ -46,8 +47,8 @@ final class ModelTest {
         while (told.size() < CALLS && !differs) {
             oneCall();
         }
-        for (int question = 0; question < 80 && !differs; question++) {
-            ask(question % 20, below(16));
+        while (told.size() < ALL_CALLS && !differs) {
+            ask(told.size() % 20, below(16));
         }
     }
 

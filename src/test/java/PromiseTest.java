@@ -51,29 +51,16 @@ final class PromiseTest {
         c.end();
     }
 
-    /** A change with edits, given as file, span, value, for which the people 0 and 1 vote as they may. */
     private static int change(Branchyard x, int author, int... edits) {
-        int number = x.open(author);
-        for (int i = 0; i + 2 < edits.length; i += 3) {
-            x.edit(number, edits[i], edits[i + 1], edits[i + 2]);
-        }
-        for (int person = 0; person < 2; person++) {
-            if (person != author) {
-                x.vote(number, person, true);
-            }
-        }
-        return number;
+        return Rooms.change(x, author, edits);
     }
 
     private static int queued(Branchyard x, int author, int... edits) {
-        int number = change(x, author, edits);
-        x.queue(number);
-        return number;
+        return Rooms.queued(x, author, edits);
     }
 
     private static int merged(Branchyard x, int author, int... edits) {
-        int number = queued(x, author, edits);
-        x.step();
+        int number = Rooms.merged(x, author, edits);
         c.due("stateOf a change to merge", 'm', () -> x.stateOf(number));
         return number;
     }
@@ -1124,26 +1111,27 @@ final class PromiseTest {
         c.due("34 nothing built since but for the revert", builds + taken + 1, () -> x.builds() + x.taken());
     }
 
+    /** As many changes that edit all spans as 512 calls have room for, and all the tests there can be. */
     private static void fullRoom() {
         Branchyard x = new Branchyard();
         for (int i = 0; i < 12; i++) {
             x.addTest(i, 0, 15 - i, 3, 198);
         }
-        for (int i = 0; i < 16; i++) {
-            x.open(i % 6);
+        for (int i = 0; i < 6; i++) {
+            x.open(i);
             for (int place = 0; place < 64; place++) {
                 x.edit(i, place / 4, place % 4, 99);
             }
             for (int person = 0; person < 6; person++) {
-                if (person != i % 6) {
+                if (person != i) {
                     x.vote(i, person, true);
                 }
             }
             x.queue(i);
         }
-        c.due("16 queued", 15, () -> x.queueAt(15));
+        c.due("6 queued", 5, () -> x.queueAt(5));
         c.due("one merged, and all others clash", 1, x::step);
-        c.due("clashes in all spans", 64, () -> x.clashes(15));
+        c.due("clashes in all spans", 64, () -> x.clashes(5));
         c.due("highest values", 99, () -> x.value(15, 3));
         c.noElement("no more queued", x::step);
         c.due("reverted", 1, () -> x.revert(0));
