@@ -17,6 +17,7 @@ final class CallsTest {
     public static void main(String[] args) {
         Check check = new Check("CallsTest");
         new CallsTest(check).manyBuilds();
+        new CallsTest(check).mostBuilds();
         new CallsTest(check).manyReverts();
         new CallsTest(check).manyForgotten();
         new CallsTest(check).manyVotes();
@@ -132,6 +133,44 @@ final class CallsTest {
         check.due("the last step built nothing", 28 * ((value - 11) / 4), () -> countOf(x.builds()));
         check.due("all was taken, as kept since the first step", 28, () -> countOf((int) x.taken()));
         end();
+    }
+
+    /**
+     * The most builds that calls are known to give: change n edits a span of directory n, and the tests of
+     * each directory read all four spans, so that 9 calls give 28 results of new inputs. All are kept.
+     */
+    private void mostBuilds() {
+        askNobody();
+        for (int n = 0; n < 4; n++) {
+            open(2);
+            for (int other = 0; other < 4; other++) {
+                if (other != n) {
+                    addTest(4 * n, 0, 4 * other, 0, n == 3 ? 10 : 198);
+                }
+            }
+        }
+        int left = 3 * 9 + 2;
+        int rounds = 0;
+        while (calls + 9 <= CALLS - left) {
+            failWith(11 + rounds);
+            rounds++;
+        }
+        askUntilLeft(left);
+        // The first inputs, some in the middle, and the last ones.
+        failWith(11);
+        failWith(11 + rounds / 2);
+        failWith(10 + rounds);
+        int due = 28 * rounds;
+        check.due("the last steps built nothing", due, () -> countOf(x.builds()));
+        check.due("all was taken", 3 * 28, () -> countOf((int) x.taken()));
+        end();
+    }
+
+    private void failWith(int value) {
+        for (int n = 0; n < 4; n++) {
+            edit(n, 4 * n, 0, value);
+        }
+        failAll();
     }
 
     private int countOf(int answer) {

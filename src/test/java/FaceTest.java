@@ -57,6 +57,10 @@ final class FaceTest {
             c.due(inner.getName() + " is static", true, () -> Modifier.isStatic(modifiers));
             c.due(inner.getName() + " is not for others", false,
                     () -> Modifier.isPublic(modifiers) || Modifier.isProtected(modifiers));
+            for (Method method : inner.getDeclaredMethods()) {
+                c.due(inner.getName() + "." + method.getName() + " is a name of the face", false,
+                        () -> names.contains(method.getName()));
+            }
         }
     }
 

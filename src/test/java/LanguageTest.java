@@ -1,11 +1,14 @@
 import java.io.IOException;
+import java.lang.reflect.Modifier;
 import java.nio.file.Files;
 import java.nio.file.Path;
+import java.util.ArrayList;
 import java.util.List;
 import java.util.Set;
 import java.util.TreeSet;
 import java.util.regex.Matcher;
 import java.util.regex.Pattern;
+import java.util.stream.Stream;
 
 /** What of ../shared/LANGUAGE.md can be seen from the words of the program. */
 final class LanguageTest {
@@ -31,8 +34,28 @@ final class LanguageTest {
                 + "UnsupportedOperation|Arithmetic)(Exception|OperationException)\\(\"[^\"]*\"\\);", code));
         c.due("texts stand in throws alone", true, () -> count("\"[^\"]*\"", code) == count("throw ", code));
         c.due("some twelve classes at most", true, () -> count("\\bclass ", code) <= 12);
+        statics(c, code);
+        fields(c);
         methods(c, lines);
         c.end();
+    }
+
+    /** No state is shared between rooms: what is static is a method, a class, or a constant's number. */
+    private static void statics(Check c, String code) {
+        String rest = code.replaceAll("static final (int|long|char) [A-Z_]+ = (-?\\w+|'.');", "");
+        c.due("static and final", "[]", () -> all(Pattern.compile("static final (?!class ).*"), rest));
+        c.due("static and not final", "[]", () -> all(Pattern.compile("static (?!final )[^(]*[;=].*"), rest));
+    }
+
+    /** Beside its constants, a class has some twenty fields. */
+    private static void fields(Check c) {
+        List<Class<?>> classes = new ArrayList<>(List.of(Branchyard.class.getDeclaredClasses()));
+        classes.add(Branchyard.class);
+        for (Class<?> type : classes) {
+            long count = Stream.of(type.getDeclaredFields())
+                    .filter(field -> !Modifier.isStatic(field.getModifiers())).count();
+            c.due("fields of " + type.getSimpleName(), true, () -> count > 0 && count <= 20);
+        }
     }
 
     private static String withoutComments(List<String> lines) {

@@ -754,6 +754,26 @@ final class PromiseTest {
         int closed = x.open(0);
         x.close(closed);
         c.badState("20 closed", () -> x.update(closed));
+        promise20Values();
+    }
+
+    /** "Whatever its value": the one of now, the one that the vote covered, or another. */
+    private static void promise20Values() {
+        for (int now : new int[] {1, 2}) {
+            Branchyard x = new Branchyard();
+            int number = change(x, 3, 0, 0, 1, 0, 1, 1);
+            x.edit(number, 0, 0, now);
+            merged(x, 2, 0, 0, 1);
+            c.due("20 one clash, value " + now, 1, () -> x.update(number));
+            for (int value : new int[] {1, 2, 0}) {
+                x.edit(number, 0, 0, value);
+                c.due("20 not covered at " + value, 's', () -> x.verdict(number, 0));
+            }
+            x.take(number, 0, 0);
+            c.due("20 the other span is covered", 'y', () -> x.verdict(number, 0));
+            x.edit(number, 0, 0, 1);
+            c.due("20 put back, still not covered", 's', () -> x.verdict(number, 0));
+        }
     }
 
     private static void promise21() {

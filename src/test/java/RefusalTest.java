@@ -1,5 +1,5 @@
-import java.util.ArrayList;
-import java.util.List;
+import java.util.LinkedHashMap;
+import java.util.Map;
 
 /**
  * "A method that throws an exception changes nothing, but that what cells keep and count stays":
@@ -13,10 +13,6 @@ final class RefusalTest {
 
     private interface Use {
         Object answer(Branchyard x);
-    }
-
-    private interface View {
-        void ask(Branchyard x, List<String> told);
     }
 
     private static final String ELEMENT = "throws.NoSuchElementException";
@@ -38,8 +34,11 @@ final class RefusalTest {
     private static final int AGAINST = 8;
     private static final int FAILED = 9;
     private static final int CHANGES = 10;
+    private static final int[][] EDITED = {
+        {0, 0}, {0, 1}, {0, 2}, {1, 1}, {5, 0}, {6, 1}, {8, 0}, {9, 2}, {12, 0}, {15, 3}
+    };
 
-    private static final View[] VIEWS = {
+    private static final Views.View[] VIEWS = {
         RefusalTest::askStates, RefusalTest::askValues, RefusalTest::askVotes, RefusalTest::askPeople,
         RefusalTest::askTests, RefusalTest::askQueue, RefusalTest::askCells
     };
@@ -54,6 +53,7 @@ final class RefusalTest {
         states();
         verdictsAndSteps();
         tests();
+        meansOfNothing();
         fullRooms();
         emptyRooms();
         keptCounts();
@@ -70,10 +70,7 @@ final class RefusalTest {
         Rooms.queued(x, 2, 0, 0, 30);
         Rooms.change(x, 3, 0, 1, 60);
         Rooms.change(x, 4, 0, 0, 5, 0, 1, 6, 5, 0, 7);
-        x.addTest(0, 0, 0, 1, 100);
-        x.addTest(4, 0, 8, 0, 120);
-        x.addTest(12, 0, 12, 1, 150);
-        x.dropTest(2);
+        addTests(x);
         x.step();
         x.queue(ON_TOP);
         x.step();
@@ -119,7 +116,54 @@ final class RefusalTest {
         for (int i = 3; i < 12; i++) {
             x.addTest(15, 3, 14, 3, 198);
         }
+        c.unsupported("27 a bad trunk, whose cell is kept", () -> x.revert(NEEDED));
         return x;
+    }
+
+    /** No test was there when something was merged or reverted, so there are no results. */
+    private static Branchyard unbuilt() {
+        Branchyard x = new Branchyard();
+        Rooms.merged(x, 2, 0, 0, 60);
+        Rooms.merged(x, 2, 1, 0, 7);
+        Rooms.merged(x, 2, 8, 0, 70);
+        Rooms.change(x, 4, 0, 0, 5, 5, 0, 7);
+        Rooms.merged(x, 2, 0, 0, 30);
+        x.revert(2);
+        Rooms.queued(x, 3, 12, 0, 9);
+        Rooms.queued(x, 3, 6, 1, 9);
+        addTests(x);
+        people(x);
+        return x;
+    }
+
+    /** What was merged is reverted; there are results, and changes of each other state. */
+    private static Branchyard unmerged() {
+        Branchyard x = new Branchyard();
+        addTests(x);
+        Rooms.merged(x, 3, 0, 0, 9, 0, 1, 99);
+        Rooms.change(x, 2, 1, 1, 4);
+        x.close(1);
+        Rooms.merged(x, 2, 0, 1, 98, 0, 0, 3);
+        Rooms.change(x, 4, 0, 0, 5, 5, 0, 7);
+        Rooms.merged(x, 2, 0, 0, 30);
+        x.revert(4);
+        Rooms.queued(x, 3, 12, 0, 9);
+        Rooms.queued(x, 3, 6, 1, 9);
+        people(x);
+        return x;
+    }
+
+    private static void addTests(Branchyard x) {
+        x.addTest(0, 0, 0, 1, 100);
+        x.addTest(4, 0, 8, 0, 120);
+        x.addTest(12, 0, 12, 1, 150);
+        x.dropTest(2);
+    }
+
+    private static void people(Branchyard x) {
+        x.setFrozen(3, true);
+        x.setOwner(2, 5, 3);
+        x.setAway(5, true);
     }
 
     /** In directory 3, nobody is asked about a change of person 2. */
@@ -130,17 +174,14 @@ final class RefusalTest {
     }
 
     private static void refused(Make make, String what, String refusal, Use use) {
-        for (View view : VIEWS) {
+        for (Views.View view : VIEWS) {
             Branchyard refusing = make.room();
             c.due(what, refusal, () -> use.answer(refusing));
-            List<String> got = new ArrayList<>();
+            Map<String, String> got = new LinkedHashMap<>();
             view.ask(refusing, got);
-            List<String> due = new ArrayList<>();
+            Map<String, String> due = new LinkedHashMap<>();
             view.ask(make.room(), due);
-            for (int i = 0; i < due.size(); i++) {
-                String answer = i < got.size() ? got.get(i) : "nothing";
-                c.due("after " + what + ", question " + i, due.get(i), () -> answer);
-            }
+            due.forEach((question, answer) -> c.due("after " + what + ", " + question, answer, () -> got.get(question)));
         }
     }
 
@@ -148,145 +189,77 @@ final class RefusalTest {
         refused(RefusalTest::busy, what, refusal, use);
     }
 
-    private static void told(List<String> told, Check.Call call) {
-        told.add(Check.answerOf(call));
+    private static void askStates(Branchyard x, Map<String, String> told) {
+        Views.states(x, told, CHANGES);
     }
 
-    private static void askStates(Branchyard x, List<String> told) {
-        for (int n = 0; n <= CHANGES; n++) {
-            int change = n;
-            told(told, () -> x.stateOf(change));
-            told(told, () -> x.hasFailed(change));
-            told(told, () -> x.clashes(change));
-            told(told, () -> x.missing(change));
-            told(told, () -> x.along(change));
-            told(told, () -> x.queueAt(change));
-            told(told, () -> x.mergedAt(change));
-            for (int d = 0; d < 4; d++) {
-                int directory = d;
-                told(told, () -> x.verdict(change, directory));
-                told(told, () -> x.asked(change, directory));
-            }
-        }
-        for (int d = 0; d < 4; d++) {
-            int directory = d;
-            told(told, () -> x.isGood(directory));
-        }
-        told(told, x::builds);
-        told(told, x::taken);
-        told(told, x::takenShare);
-        told(told, x::meanEdits);
-        told(told, x::isSound);
+    private static void askValues(Branchyard x, Map<String, String> told) {
+        Views.values(x, told, CHANGES, EDITED);
     }
 
-    private static void askValues(Branchyard x, List<String> told) {
-        int[][] edited = {{0, 0}, {0, 1}, {0, 2}, {1, 1}, {5, 0}, {6, 1}, {8, 0}, {9, 2}, {12, 0}, {15, 3}};
-        for (int place = 0; place < 64; place++) {
-            int file = place / 4;
-            int span = place % 4;
-            told(told, () -> x.value(file, span));
-            told(told, () -> x.valueByMerges(file, span));
-        }
-        for (int n = 0; n <= CHANGES; n++) {
-            for (int[] place : edited) {
-                int change = n;
-                told(told, () -> x.valueWith(change, place[0], place[1]));
-            }
-        }
+    private static void askVotes(Branchyard x, Map<String, String> told) {
+        Views.votes(x, told, "vote", 0, 1, 2, 3, 4, 5, 6, 7, 8, 9);
     }
 
-    /** Every person is made the owner everywhere, so that the votes of all are seen. */
-    private static void askVotes(Branchyard x, List<String> told) {
-        for (int p = 0; p < 6; p++) {
-            int person = p;
-            told(told, () -> x.setAway(person, false));
-        }
-        for (int p = 0; p < 6; p++) {
-            int person = p;
-            for (int d = 0; d < 4; d++) {
-                int directory = d;
-                told(told, () -> x.setOwner(directory, person, (person + 1) % 6));
-                for (int n = 0; n < CHANGES; n++) {
-                    int change = n;
-                    told(told, () -> x.verdict(change, directory));
-                }
-            }
-        }
-    }
-
-    /** With everybody away, the stand-ins are asked; setOwner tells the owners before. */
-    private static void askPeople(Branchyard x, List<String> told) {
-        for (int p = 0; p < 6; p++) {
-            int person = p;
-            told(told, () -> x.setAway(person, true));
-        }
-        for (int d = 0; d < 4; d++) {
-            int directory = d;
-            for (int n = 0; n < CHANGES; n++) {
-                int change = n;
-                told(told, () -> x.asked(change, directory));
-            }
-            told(told, () -> x.setOwner(directory, 0, 1));
-            told(told, () -> x.setFrozen(directory, true));
-        }
+    private static void askPeople(Branchyard x, Map<String, String> told) {
+        Views.people(x, told, CHANGES);
         for (int i = 0; i < 7; i++) {
-            told(told, () -> x.open(2));
+            Views.tell(told, "open", () -> x.open(2));
         }
     }
 
-    private static void askTests(Branchyard x, List<String> told) {
-        told(told, () -> x.addTest(15, 0, 15, 0, 0));
+    private static void askTests(Branchyard x, Map<String, String> told) {
+        Views.tell(told, "addTest 15 0 15 0 0", () -> x.addTest(15, 0, 15, 0, 0));
         for (int t = 0; t <= 12; t++) {
             int test = t;
-            told(told, () -> x.dropTest(test));
+            Views.tell(told, "dropTest " + test, () -> x.dropTest(test));
         }
         for (int t = 0; t < 12; t++) {
-            told(told, () -> x.addTest(15, 0, 15, 0, 0));
+            Views.tell(told, "addTest 15 0 15 0 0", () -> x.addTest(15, 0, 15, 0, 0));
         }
     }
 
     /** What can be done next with each change, and what comes of it. */
-    private static void askQueue(Branchyard x, List<String> told) {
+    private static void askQueue(Branchyard x, Map<String, String> told) {
         for (int d = 0; d < 4; d++) {
             int directory = d;
-            told(told, () -> x.setFrozen(directory, false));
+            Views.tell(told, "setFrozen " + directory + " false", () -> x.setFrozen(directory, false));
         }
         for (int n = 0; n < CHANGES; n++) {
             int change = n;
-            told(told, () -> x.queue(change));
-            told(told, () -> x.update(change));
-            told(told, () -> x.queue(change));
-            told(told, () -> x.take(change, 0, 0));
-            told(told, () -> x.edit(change, 15, 3, change));
+            Views.tell(told, "queue " + change, () -> x.queue(change));
+            Views.tell(told, "update " + change, () -> x.update(change));
+            Views.tell(told, "queue " + change, () -> x.queue(change));
+            Views.tell(told, "take " + change + " 0 0", () -> x.take(change, 0, 0));
+            Views.tell(told, "edit " + change + " 15 3 " + change, () -> x.edit(change, 15, 3, change));
         }
         for (int i = 0; i < 4; i++) {
-            told(told, x::step);
-            told(told, x::builds);
-            told(told, x::taken);
+            Views.tell(told, "step", x::step);
+            Views.counts(x, told);
         }
         for (int i = 0; i < 5; i++) {
             int index = i;
-            told(told, () -> x.mergedAt(index));
+            Views.tell(told, "mergedAt " + index, () -> x.mergedAt(index));
         }
-        told(told, () -> x.revert(BOTTOM));
-        told(told, x::isSound);
+        Views.tell(told, "revert " + BOTTOM, () -> x.revert(BOTTOM));
+        Views.tell(told, "isSound", x::isSound);
     }
 
     /** What the cells keep: the same trunk is built again, and then one with other inputs. */
-    private static void askCells(Branchyard x, List<String> told) {
+    private static void askCells(Branchyard x, Map<String, String> told) {
+        Views.tell(told, "revert " + NEEDED, () -> x.revert(NEEDED));
+        Views.counts(x, told);
         for (int i = 0; i < 2; i++) {
-            told(told, () -> x.unqueue(FROZEN));
-            told(told, () -> x.take(FAILED, 0, 0));
-            told(told, () -> x.edit(FAILED, 8, 0, 70));
-            told(told, () -> x.vote(FAILED, 0, true));
-            told(told, () -> x.setOwner(2, 0, 1));
-            told(told, () -> x.queue(FAILED));
-            told(told, x::step);
-            told(told, x::builds);
-            told(told, x::taken);
-            told(told, () -> x.revert(FAILED));
-            told(told, x::builds);
-            told(told, x::taken);
+            Views.tell(told, "unqueue " + FROZEN, () -> x.unqueue(FROZEN));
+            Views.tell(told, "take " + FAILED + " 0 0", () -> x.take(FAILED, 0, 0));
+            Views.tell(told, "edit " + FAILED + " 8 0 70", () -> x.edit(FAILED, 8, 0, 70));
+            Views.tell(told, "vote " + FAILED + " 0 true", () -> x.vote(FAILED, 0, true));
+            Views.tell(told, "setOwner 2 0 1", () -> x.setOwner(2, 0, 1));
+            Views.tell(told, "queue " + FAILED, () -> x.queue(FAILED));
+            Views.tell(told, "step", x::step);
+            Views.counts(x, told);
+            Views.tell(told, "revert " + FAILED, () -> x.revert(FAILED));
+            Views.counts(x, told);
         }
     }
 
@@ -401,6 +374,17 @@ final class RefusalTest {
         busy("addTest that fails at 0", UNSUPPORTED, x -> x.addTest(15, 3, 0, 0, 0));
     }
 
+    /** What has nothing to divide by is refused in rooms that have much else. */
+    private static void meansOfNothing() {
+        c.due("15 this room has failed changes", true, () -> unmerged().hasFailed(2));
+        c.due("19 and clashes", 1, () -> unmerged().clashes(3));
+        c.due("30 and results", true, () -> unmerged().builds() > 0);
+        refused(RefusalTest::unmerged, "meanEdits of none", ARITHMETIC, Branchyard::meanEdits);
+        c.due("28 this room has merged changes", 4, () -> unbuilt().mergedAt(2));
+        c.due("19 and clashes", 1, () -> unbuilt().clashes(3));
+        refused(RefusalTest::unbuilt, "takenShare of none", ARITHMETIC, Branchyard::takenShare);
+    }
+
     private static void fullRooms() {
         refused(RefusalTest::busyAndFull, "open a 17th", STATE, x -> x.open(2));
         refused(RefusalTest::busyAndFull, "open a 17th by nobody", ARGUMENT, x -> x.open(6));
@@ -434,30 +418,21 @@ final class RefusalTest {
         float share = (float) (taken + 1) / (float) (builds + taken + 2);
         c.due("32 the share counts both", share, x::takenShare);
 
-        // All but the counts is as in a room that was not asked to.
-        Branchyard y = busy();
-        List<String> got = new ArrayList<>();
-        List<String> due = new ArrayList<>();
-        askStates(x, got);
-        askStates(y, due);
-        int counts = due.size() - 5;
-        for (int i = 0; i < due.size(); i++) {
-            int at = i;
-            if (i < counts || i > counts + 2) {
-                c.due("27 after it, question " + i, due.get(i), () -> got.get(at));
-            }
-        }
-        values(x, y);
+        allButTheCounts();
         addedTestsForget();
     }
 
-    private static void values(Branchyard refusing, Branchyard other) {
-        for (int place = 0; place < 64; place++) {
-            int file = place / 4;
-            int span = place % 4;
-            c.due("27 value of place " + place, other.value(file, span), () -> refusing.value(file, span));
-            c.due("27 merged value of place " + place, other.value(file, span),
-                    () -> refusing.valueByMerges(file, span));
+    /** Such a room answers all else as one that was not asked to. */
+    private static void allButTheCounts() {
+        for (Views.View view : VIEWS) {
+            Branchyard x = busy();
+            c.unsupported("27 a bad trunk", () -> x.revert(NEEDED));
+            Map<String, String> got = new LinkedHashMap<>();
+            view.ask(x, got);
+            Map<String, String> due = new LinkedHashMap<>();
+            view.ask(busy(), due);
+            due.keySet().removeIf(question -> question.startsWith("builds") || question.startsWith("taken"));
+            due.forEach((question, answer) -> c.due("27 after it, " + question, answer, () -> got.get(question)));
         }
     }
 
